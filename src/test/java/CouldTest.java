@@ -102,6 +102,9 @@ public final class CouldTest {
         Due.due("way(2, 43)", x.way(2, 43), 1);
         Due.due("way(1, 33) into mud", x.way(1, 33), -9);
         Due.due("way(1, 30)", x.way(1, 30), 7);
+        MudMoot dry = Due.told("p5 5 1 1;");
+        Due.due("way(0, 0) over a dry field", dry.way(0, 0), 10);
+        Due.due("way(0, 55) where he is", dry.way(0, 55), 0);
         MudMoot shut = Due.told("p0 0 1 1;p5 5 1 1;f0 1 1;f1 0 1;");
         Due.due("way(0, 11) shut in", shut.way(0, 11), -9);
         Due.due("way(1, 0) shut out", shut.way(1, 0), -9);

@@ -36,6 +36,12 @@ public final class DoneTest {
         Due.due("walks(0, 4)", x.walks(0, 4), -1);
         Due.due("now(7) behind refusals", x.now(7), 4);
         Due.due("cell(0, 0) behind refusals", x.cell(0, 0), 0);
+        MudMoot corner = Due.told("p0 1 2 1;p1 0 1 1;p5 4 1 1;");
+        Due.due("walks(0, 2) to the first cell", corner.walks(0, 2), 2);
+        Due.due("walks(1, 0) to the first cell", corner.walks(1, 0), 3);
+        Due.due("cell(0, 2)", corner.cell(0, 2), 3);
+        Due.due("walks(2, 3) to the last cell", corner.walks(2, 3), 1);
+        Due.due("cell(55, 2)", corner.cell(55, 2), 4);
     }
 
     private static void stood() {
@@ -153,6 +159,10 @@ public final class DoneTest {
         Due.due("votes(2): as many for as against", even.votes(2), 0);
         Due.due("votes(3): neither", even.votes(3), 1);
         Due.due("now(3)", even.now(3), 1);
+        MudMoot on = Due.told("p1 0 1 4;p2 0 1 9;");
+        Due.due("now(4): on it neither", on.now(4), 4 + 8 + 16 + 32);
+        Due.due("votes(2): on it neither", on.votes(2), 1);
+        Due.due("votes(1): on it neither", on.votes(1), 0);
     }
 
     private static void undone() {
