@@ -75,7 +75,7 @@ public final class MudMoot {
         reader.length = 0;
         past.lose();
         findings.size = 0;
-        Arrays.fill(imageKept, false);
+        loseImages();
         return items;
     }
 
@@ -350,6 +350,12 @@ public final class MudMoot {
 
     public long trace() {
         return traced;
+    }
+
+    private void loseImages() {
+        for (int i = 0; i < imageKept.length; i++) {
+            imageKept[i] = false;
+        }
     }
 
     // ---- places: the cells in order, x first, then y

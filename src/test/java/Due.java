@@ -28,6 +28,21 @@ final class Due {
         return moot;
     }
 
+    /** One of that weight has walked over the whole field, and has stood on each cell as often as told. */
+    static MudMoot trodden(int weight, int stands) {
+        MudMoot x = told("p0 0 " + weight + " 0;");
+        x.stands(0, 3);
+        for (int step = 0; step < 36; step++) {
+            if (step > 0) {
+                x.walks(0, step % 6 == 0 ? 1 : step / 6 % 2 == 0 ? 3 : 2);
+            }
+            for (int i = 0; i < stands; i++) {
+                x.stands(0, 3);
+            }
+        }
+        return x;
+    }
+
     static void end() {
         System.out.println(right + " answers as due, " + wrong + " not");
         if (wrong != 0 || right == 0) {

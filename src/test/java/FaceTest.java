@@ -119,6 +119,11 @@ public final class FaceTest {
             yes("import " + imports.group(1), Set.of("java.util.Arrays", "java.util.ArrayList", "java.util.List")
                 .contains(imports.group(1)));
         }
+        Matcher flags = Pattern.compile("boolean\\[\\] (\\w+)").matcher(code);
+        while (flags.find()) {
+            yes("Arrays has to do with arrays of numbers alone, not with " + flags.group(1),
+                !Pattern.compile("Arrays\\.\\w+\\(" + flags.group(1) + "\\b").matcher(code).find());
+        }
         yes("no package line", !Pattern.compile("^\\s*package\\b", Pattern.MULTILINE).matcher(code).find());
         Matcher bodies = Pattern.compile("(?m)^( {4}| {8})\\w[\\w\\[\\] ]*\\([^\n;]*\\) \\{\n(?s:.*?)\n\\1\\}").matcher(code);
         int count = 0;

@@ -5,6 +5,14 @@ public final class ModelTest {
     private static final int[] ODD = {-1, 6, 10, 55, 56, 60, 100, 256, -9, -10, Integer.MIN_VALUE, Integer.MAX_VALUE};
     private static final String[] TEXTS = {"p", "s", "f", ";", " ", "0", "1", "5", "9", "10", "00", "100", "x"};
 
+    /** Behind its 512th call nothing is promised of an object. */
+    private static final int MOST_CALLS = 512;
+    private static final int CALLS_OF_A_LOOK = 200;
+    private static final int CALLS_OF_A_TEXT = 106;
+    private static final String[] WHOLE = {"s2;p0 5 4 9; f5 0 9;p1 1 1 0;f 2 3 4 ;", " f1 2 3;p 5 5 2 7 ;s 9 ;",
+        "p0 0 1 1;p1 1 1 1;p2 2 1 1;p3 3 1 1;p4 4 1 1;s1;"};
+    private static final String LETTERS = " ;psf0123456789x";
+
     private final Random random;
     private final MudMoot moot = new MudMoot();
     private final Model model = new Model();
@@ -15,9 +23,9 @@ public final class ModelTest {
     }
 
     public static void main(String[] args) {
-        for (int seed = 0; seed < 1500; seed++) {
+        for (int seed = 0; seed < 2500; seed++) {
             ModelTest run = new ModelTest(seed);
-            while (run.calls < 420) {
+            while (run.calls < MOST_CALLS - CALLS_OF_A_LOOK - CALLS_OF_A_TEXT) {
                 if (run.random.nextInt(60) == 0 || run.calls == 0) {
                     run.tell(run.text());
                 } else {
@@ -25,7 +33,10 @@ public final class ModelTest {
                 }
             }
             run.look();
+            Due.due("calls of one run are " + run.calls + ", " + MOST_CALLS + " at most", Math.max(MOST_CALLS, run.calls),
+                MOST_CALLS);
         }
+        eachLetterChanged();
         Due.end();
     }
 
@@ -72,7 +83,28 @@ public final class ModelTest {
             int at = random.nextInt(s.length());
             s.replace(at, at + random.nextInt(2), TEXTS[random.nextInt(TEXTS.length)]);
         }
+        s.setLength(Math.min(s.length(), 104));
         return s.toString();
+    }
+
+    /** Each letter of some texts left out, put in another one's place, and put in. */
+    private static void eachLetterChanged() {
+        for (String whole : WHOLE) {
+            for (int at = 0; at <= whole.length(); at++) {
+                int behind = Math.min(at + 1, whole.length());
+                field(whole.substring(0, at) + whole.substring(behind));
+                for (int i = 0; i < LETTERS.length(); i++) {
+                    field(whole.substring(0, at) + LETTERS.charAt(i) + whole.substring(behind));
+                    field(whole.substring(0, at) + LETTERS.charAt(i) + whole.substring(at));
+                }
+            }
+        }
+    }
+
+    private static void field(String text) {
+        ModelTest run = new ModelTest(0);
+        run.tell(text);
+        run.look();
     }
 
     private void tell(String text) {
@@ -86,7 +118,7 @@ public final class ModelTest {
     }
 
     private void call(int which) {
-        int people = moot.count(0);
+        int people = model.count(0);
         int p = upTo(Math.max(0, people - 1));
         switch (which) {
             case 0, 1, 2, 3 -> { int side = upTo(3); due("walks", moot.walks(p, side), model.walks(p, side)); }
@@ -128,7 +160,7 @@ public final class ModelTest {
     /** All that can be seen without a change. */
     private void look() {
         for (int c = 0; c <= 55; c++) {
-            for (int what = 0; what < 4; what++) {
+            for (int what = 0; what < 4 && c % 10 < 6; what++) {
                 due("cell(" + c + ", " + what + ")", moot.cell(c, what), model.cell(c, what));
             }
         }
@@ -137,8 +169,8 @@ public final class ModelTest {
             due("count(" + what + ")", moot.count(what), model.count(what));
             due("person(0, " + what + ")", moot.person(0, what), model.person(0, what));
             due("can(" + what + ")", moot.can(what), model.can(what));
-            due("ask()", moot.ask(), model.ask());
         }
+        due("ask()", moot.ask(), model.ask());
         due("trace()", moot.trace(), model.trace());
     }
 }
