@@ -14,6 +14,7 @@ public final class CouldEdgeTest {
         bestOfDryAndDeepest();
         bestOfSeveral();
         noCellInTwo();
+        bestOfNeighboursInOrder();
         bestOfOneCell();
         wayArguments();
         wayOnDry();
@@ -154,6 +155,18 @@ public final class CouldEdgeTest {
         best(near, "trays side by side", 1, 18, 0);
         best(near, "trays side by side", 2, 36, 0, 2);
         best(near, "trays side by side", 3, 54, 0, 2, 20);
+    }
+
+    /** The last tray of one x and the first of the next are told one behind the other, and are far apart. */
+    private static void bestOfNeighboursInOrder() {
+        MudMoot two = Due.told("f0 5 9;f1 0 9;f2 0 9;");
+        best(two, "0, 4 and 1, 0", 1, 18, 10);
+        best(two, "0, 4 and 1, 0", 2, 27, 4, 10);
+        MudMoot three = Due.told("f0 2 9;f0 3 9;f0 5 9;f1 0 9;f2 0 9;");
+        best(three, "0, 2 and 0, 4 and 1, 0", 3, 45, 2, 4, 10);
+        MudMoot last = Due.told("f5 0 9;f4 0 9;f3 5 9;f4 5 9;f0 3 1;");
+        best(last, "3, 4 and 4, 0", 2, 36, 34, 40);
+        best(last, "3, 4 and 4, 0", 3, 37, 2, 34, 40);
     }
 
     private static void bestOfOneCell() {

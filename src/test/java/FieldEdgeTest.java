@@ -375,6 +375,13 @@ public final class FieldEdgeTest {
     }
 
     private static void peopleAtACell() {
+        for (int people = 0; people <= 5; people++) {
+            MudMoot told = Due.told("p3 5 1 0;".repeat(people));
+            for (int cell = 0; cell <= 55; cell++) {
+                int due = cell % 10 > 5 ? -1 : cell == 35 ? (1 << people) - 1 : 0;
+                Due.due("promise 5: who of " + people + " is at " + cell, told.cell(cell, 2), due);
+            }
+        }
         MudMoot x = Due.told("p5 5 1 0;p5 5 1 0;p5 5 1 0;p5 5 1 0;p5 5 1 0;");
         int there = 31;
         Due.due("promise 5: all five", x.cell(55, 2), 31);
