@@ -662,20 +662,18 @@ public final class MudMoot {
         }
 
         int weightTogether(int set) {
-            int sum = 0;
-            for (int p = 0; p < people; p++) {
-                if ((set & (1 << p)) != 0) {
-                    sum += weightOf(p);
-                }
-            }
-            return sum;
+            return together(weights, set);
         }
 
         int voicesTogether(int set) {
+            return together(voices, set);
+        }
+
+        private int together(int[] shares, int set) {
             int sum = 0;
-            for (int p = 0; p < people; p++) {
+            for (int p = 0; p < people && p < shares.length; p++) {
                 if ((set & (1 << p)) != 0) {
-                    sum += voicesOf(p);
+                    sum += shares[p];
                 }
             }
             return sum;
